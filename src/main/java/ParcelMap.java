@@ -33,7 +33,8 @@ public final class ParcelMap {
     private static final int WITHIN = -2;
     private static final int AWAY = -3;
 
-    /** The bits of 2^-20 and of 2^28, and what it takes to read a number between them. */
+    /** All bits but the sign; those of 2^-20 and of 2^28, and what it takes to read a number between. */
+    private static final long SIZE_MASK = 0x7fffffffffffffffL;
     private static final long LEAST_BITS = 1003L << 52;
     private static final long MOST_BITS = 1051L << 52;
     private static final int LEAST_EXPONENT = 1003;
@@ -453,7 +454,7 @@ public final class ParcelMap {
     // ---- what the calls have in common
 
     private static boolean isNumber(long raw) {
-        long size = raw & Long.MAX_VALUE;
+        long size = raw & SIZE_MASK;
         return size == 0 || (size >= LEAST_BITS && size <= MOST_BITS);
     }
 
@@ -474,7 +475,7 @@ public final class ParcelMap {
                 Ring other = register.parcels[q].ring;
                 if (shapes.framesMeet(settled, other)
                         && (shapes.reachesInto(settled, other) || shapes.reachesInto(other, settled)
-                                || shapes.runTogether(settled, other))) {
+                                || shapes.haveLikeLand(settled, other))) {
                     where = q;
                     return OVER;
                 }
@@ -741,7 +742,7 @@ public final class ParcelMap {
 
         /** The library has no way from bits to a double here, so it is built from its parts. */
         private void putOne(int spot, long raw) {
-            long size = raw & Long.MAX_VALUE;
+            long size = raw & SIZE_MASK;
             long sign = raw < 0 ? -1 : 1;
             long digits = size == 0 ? 0 : (size & (TWO_52 - 1)) + TWO_52;
             int shift = size == 0 ? 0 : (int) (size >>> 52) - LEAST_EXPONENT;
@@ -1049,35 +1050,33 @@ public final class ParcelMap {
             return false;
         }
 
+        /** A segment that is not cut is all inside or not at all, which its one end tells. */
         boolean goesThrough(int a, int b, Ring ring) {
-            return cutsInto(a, b, ring)
-                    || startsInto(ring, placeOf(a, ring), a, b)
-                    || startsInto(ring, placeOf(b, ring), b, a);
+            return cutsInto(a, b, ring) || startsInto(ring, placeOf(a, ring), a, b);
         }
 
         /** Whether an edge of p goes through the inside of q. */
         boolean reachesInto(Ring p, Ring q) {
             for (int i = 0; i < p.size; i++) {
                 int here = p.around(i);
-                int spot = placeOf(here, q);
-                if (startsInto(q, spot, here, p.around(i + 1))
-                        || startsInto(q, spot, here, p.around(i - 1))
-                        || cutsInto(here, p.around(i + 1), q)) {
+                int next = p.around(i + 1);
+                if (cutsInto(here, next, q) || startsInto(q, placeOf(here, q), here, next)) {
                     return true;
                 }
             }
             return false;
         }
 
-        /** Whether two rings have a stretch in common with both insides on the same side of it. */
-        boolean runTogether(Ring p, Ring q) {
-            for (int i = 0; i < p.size; i++) {
-                boolean onward = points.isAhead(p.around(i), p.around(i + 1));
-                for (int j = 0; j < q.size; j++) {
-                    if (points.isAhead(q.around(j), q.around(j + 1)) == onward
-                            && common(p, i, q, j) == A_STRETCH) {
-                        return true;
-                    }
+        /**
+         * Whether two rings of which neither reaches into the other are round the same land: then, and
+         * only then, does any edge of the one share a stretch with one of the other that goes its way.
+         */
+        boolean haveLikeLand(Ring p, Ring q) {
+            boolean onward = points.isAhead(p.around(0), p.around(1));
+            for (int j = 0; j < q.size; j++) {
+                if (points.isAhead(q.around(j), q.around(j + 1)) == onward
+                        && common(p, 0, q, j) == A_STRETCH) {
+                    return true;
                 }
             }
             return false;

@@ -11,7 +11,8 @@ public final class FindingTest {
         walkBay();
         walkExactly();
         hull();
-        hullManyCorners();
+        hullExactly();
+        hullOfAllCorners();
         hullAt();
         Bench.end();
     }
@@ -192,7 +193,7 @@ public final class FindingTest {
         dueHull(b, "without one that is gone", 0, -2, 3, 0, 2, 6, 0, 12, 0, 12, 3, 0, 4);
     }
 
-    private static void hullManyCorners() {
+    private static void hullExactly() {
         Bench b = new Bench();
         double most = 0x1p28, up = Math.nextUp(0.1);
         b.close(0, 0, 0, 0, most, most, 0, most);
@@ -203,6 +204,30 @@ public final class FindingTest {
         b.close(2, 0, 0, 0, most, most, 5, 9e5);
         b.close(2, 0, 0, 0, 0.1, Math.nextDown(0.1), most, most);
         dueHull(b, "a bit below the line", 2, 0, 0, 0.1, Math.nextDown(0.1), most, most, 5, 9e5);
+    }
+
+    /** All 200 corners on a bow, in parcels that share some, so that more than 200 are told. */
+    private static void hullOfAllCorners() {
+        Bench b = new Bench();
+        for (int i = 199; i >= 0; i--) {
+            b.corner(i, i * i);
+        }
+        for (int from = 0; from < 199; ) {
+            int to = from == 187 ? 197 : Math.min(199, from + 11);
+            b.map.draw();
+            for (int i = from; i <= to; i++) {
+                b.map.add(199 - i);
+            }
+            b.map.close(0, 0);
+            from = to;
+        }
+        Bench.due("23 all corners: parcels", b.map.count(4), 19);
+        Bench.due("23 all corners", b.map.hull(0), 200);
+        for (int k = 0; k < 200; k += 30) {
+            Bench.due("24 all corners, corner " + k, b.map.hullAt(k), 199 - k);
+        }
+        Bench.due("24 all corners, the last", b.map.hullAt(199), 0);
+        Bench.due("24 all corners, no more", b.map.hullAt(200), -1);
     }
 
     private static void hullAt() {

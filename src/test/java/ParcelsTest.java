@@ -108,6 +108,12 @@ public final class ParcelsTest {
         Bench.due("15 through a corner", d.map.split(0, 0, 3, 0), -205);
         Bench.due("15 outside, over a dent", d.map.split(0, 0, 2, 0), -205);
         Bench.due("15 from the dent", d.map.split(0, 1, 3, 0), 1);
+        Bench e = new Bench();
+        e.close(0, 0, 0, 0, 4, 2, 1, -3, 6, 0, 6, 6, 0, 6);
+        Bench.due("15 across edge 0 alone", e.map.split(0, 2, 5, 0), -205);
+        Bench f = new Bench();
+        f.close(0, 0, 0, 6, 0, 0, 6, 0, 6, 6, 1, 9, 4, 4);
+        Bench.due("15 across edge 4 alone", f.map.split(0, 0, 3, 0), -205);
     }
 
     private static void splitRefusals() {

@@ -18,8 +18,8 @@ public final class RandomRunsTest {
 
     private RandomRunsTest(long seed) {
         random = new Random(seed);
-        kind = (int) (seed % 6);
-        building = seed / 6 % 2 == 1;
+        kind = (int) (seed % 7);
+        building = seed / 7 % 2 == 1;
     }
 
     public static void main(String[] args) {
@@ -120,7 +120,8 @@ public final class RandomRunsTest {
             case 2: return Double.doubleToRawLongBits(0.1 * (random.nextInt(13) - 6));
             case 3: return Double.doubleToRawLongBits(1 + random.nextInt(8) / 3.0);
             case 4: return Double.doubleToRawLongBits((random.nextDouble() * 2 - 1) * 0x1p28);
-            default: return wild();
+            case 5: return wild();
+            default: return tiny();
         }
     }
 
@@ -129,6 +130,13 @@ public final class RandomRunsTest {
             0x1p-19, 3, 1e-3, 12345.678, 0x1p27};
         double v = some[random.nextInt(some.length)];
         return Double.doubleToRawLongBits(random.nextBoolean() ? v : -v);
+    }
+
+    /** Numbers whose last bits are the last that there are. */
+    private long tiny() {
+        long ulps = random.nextInt(3) == 0 ? random.nextInt(4) : random.nextLong() & ((1L << 53) - 1);
+        long bits = Double.doubleToRawLongBits(0x1p-20) + ulps;
+        return random.nextInt(6) == 0 ? 0 : random.nextBoolean() ? bits : bits | Long.MIN_VALUE;
     }
 
     /** Now and then, in place of a fair argument, one that is far off. */
