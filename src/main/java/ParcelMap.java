@@ -1068,14 +1068,13 @@ public final class ParcelMap {
         }
 
         /**
-         * Whether two rings of which neither reaches into the other are round the same land: then, and
-         * only then, does any edge of the one share a stretch with one of the other that goes its way.
+         * Whether two settled rings of which neither reaches into the other are round the same land:
+         * then, and only then, does edge 0 of the one, which leads away from the corner ahead of all,
+         * share a stretch with one of the other that goes its way.
          */
         boolean haveLikeLand(Ring p, Ring q) {
-            boolean onward = points.isAhead(p.around(0), p.around(1));
             for (int j = 0; j < q.size; j++) {
-                if (points.isAhead(q.around(j), q.around(j + 1)) == onward
-                        && common(p, 0, q, j) == A_STRETCH) {
+                if (points.isAhead(q.around(j), q.around(j + 1)) && common(p, 0, q, j) == A_STRETCH) {
                     return true;
                 }
             }

@@ -8,6 +8,7 @@ public final class AreasTest {
         quotaLikeRests();
         quotaRefusals();
         quotaExactly();
+        lastUnit();
         Bench.end();
     }
 
@@ -104,6 +105,20 @@ public final class AreasTest {
         Bench.due("27 unknown ahead of outside", b.map.quota(-1, 1001), -101);
         Bench.due("27 too much", b.map.quota(0, 1001), -102);
         Bench.due("27 below", b.map.quota(0, -1), -102);
+    }
+
+    /** With u = 2^-52: (1 + u)(1 + u) against 1 + 2u, by 2^-40: the least that areas can differ by. */
+    private static void lastUnit() {
+        Bench b = new Bench();
+        double one = 0x1p-20, more = Math.nextUp(one), most = Math.nextUp(more);
+        b.close(0, 0, 0, 0, most, 0, 0, one);
+        b.close(0, 0, 0, 0, -more, 0, 0, -more);
+        Bench.due("26 less by the last unit", b.map.compare(0, 1), -1);
+        Bench.due("26 more by the last unit", b.map.compare(1, 0), 1);
+        Bench.due("27 less by the last unit", b.map.quota(0, 7), 3);
+        Bench.due("27 more by the last unit", b.map.quota(1, 7), 4);
+        Bench.due("27 less by the last unit, one", b.map.quota(0, 1), 0);
+        Bench.due("27 more by the last unit, one", b.map.quota(1, 1), 1);
     }
 
     /** Two nearly like ones: the odd one goes to the one that is greater by a last bit. */

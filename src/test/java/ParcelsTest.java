@@ -111,6 +111,9 @@ public final class ParcelsTest {
         Bench e = new Bench();
         e.close(0, 0, 0, 0, 4, 2, 1, -3, 6, 0, 6, 6, 0, 6);
         Bench.due("15 across edge 0 alone", e.map.split(0, 2, 5, 0), -205);
+        Bench g = new Bench();
+        g.close(0, 0, 0, 0, 4, 0, 4, 3, 8, 3, 8, -4, 2, -4, 2, -6, 10, -6, 10, 6, 0, 6);
+        Bench.due("15 out across edge 0 alone", g.map.split(0, 2, 5, 0), -205);
         Bench f = new Bench();
         f.close(0, 0, 0, 6, 0, 0, 6, 0, 6, 6, 1, 9, 4, 4);
         Bench.due("15 across edge 4 alone", f.map.split(0, 0, 3, 0), -205);
