@@ -115,6 +115,10 @@ public final class AreasTest {
         b.close(0, 0, 0, 0, -more, 0, 0, -more);
         Bench.due("26 less by the last unit", b.map.compare(0, 1), -1);
         Bench.due("26 more by the last unit", b.map.compare(1, 0), 1);
+        double e = one + 3 * Math.ulp(one), c = one + ((1 << 26) - 1) * Math.ulp(one);
+        b.close(2, 0, 0, 0, more, 0, 0, e);
+        b.close(3, 0, 0, 0, more, c, more, c + e);
+        Bench.due("26 like to the last unit", b.map.compare(2, 3), 0);
         Bench.due("27 less by the last unit", b.map.quota(0, 7), 3);
         Bench.due("27 more by the last unit", b.map.quota(1, 7), 4);
         Bench.due("27 less by the last unit, one", b.map.quota(0, 1), 0);
