@@ -100,6 +100,13 @@ public final class LandTest {
                 double[] one = box(dx - 2, dy - 2, dx + 2, dy + 2);
                 dueOver("to the right and up" + where, one, box(dx + 1, dy + 1, dx + 9, dy + 9));
                 dueOver("to the left and up" + where, one, box(dx - 9, dy + 1, dx - 1, dy + 9));
+                double[] diamond = {dx - 4, dy, dx, dy - 4, dx + 4, dy, dx, dy + 4};
+                dueOver("over a lower tip" + where, diamond, box(dx - 4, dy - 9, dx + 4, dy - 3));
+                dueOver("over an upper tip" + where, diamond, box(dx - 4, dy + 3, dx + 4, dy + 9));
+                dueOver("over a left tip" + where, diamond, box(dx - 9, dy - 4, dx - 3, dy + 4));
+                dueOver("over a right tip" + where, diamond, box(dx + 3, dy - 4, dx + 9, dy + 4));
+                dueBeside("below a lower tip" + where, 0, diamond, box(dx - 4, dy - 9, dx + 4, dy - 4));
+                dueBeside("right of a right tip" + where, 0, diamond, box(dx + 4, dy - 4, dx + 9, dy + 4));
                 dueBeside("to the right" + where, 1, one, box(dx + 2, dy - 2, dx + 9, dy + 2));
                 dueBeside("above" + where, 1, one, box(dx - 2, dy + 2, dx + 2, dy + 9));
                 dueBeside("by a corner" + where, 0, one, box(dx + 2, dy + 2, dx + 9, dy + 9));
