@@ -1035,22 +1035,21 @@ public final class ParcelMap {
             return points.turn(a, b, to) > 0;
         }
 
-        /** Whether a segment comes to the inside between its ends: across an edge, or at a corner. */
+        /** Whether a segment goes in or out between its ends across an edge, or goes in at a corner. */
         private boolean cutsInto(int a, int b, Ring ring) {
             for (int i = 0; i < ring.size; i++) {
                 int here = ring.around(i);
                 if (points.meeting(a, b, here, ring.around(i + 1)) == INNER_POINT) {
                     return true;
                 }
-                if (here != a && here != b && points.isOn(here, a, b)
-                        && (opensTo(ring, i, a) || opensTo(ring, i, b))) {
+                if (here != a && here != b && points.isOn(here, a, b) && opensTo(ring, i, b)) {
                     return true;
                 }
             }
             return false;
         }
 
-        /** A segment that is not cut is all inside or not at all, which its one end tells. */
+        /** A segment that comes to the inside nowhere behind its start is inside from there on, or not at all. */
         boolean goesThrough(int a, int b, Ring ring) {
             return cutsInto(a, b, ring) || startsInto(ring, placeOf(a, ring), a, b);
         }
@@ -1069,16 +1068,10 @@ public final class ParcelMap {
 
         /**
          * Whether two settled rings of which neither reaches into the other are round the same land:
-         * then, and only then, does edge 0 of the one, which leads away from the corner ahead of all,
-         * share a stretch with one of the other that goes its way.
+         * then, and only then, do their edges 0 lead away from the same corner, and the same way.
          */
         boolean haveLikeLand(Ring p, Ring q) {
-            for (int j = 0; j < q.size; j++) {
-                if (points.isAhead(q.around(j), q.around(j + 1)) && common(p, 0, q, j) == A_STRETCH) {
-                    return true;
-                }
-            }
-            return false;
+            return common(p, 0, q, 0) == A_STRETCH;
         }
 
         int stretches(Ring p, Ring q) {

@@ -222,6 +222,7 @@ public final class BoundariesTest {
         dueCrossed("the last edge back on the one before", 103, 0, 0, 2, -4, 4, 0, 8, 0);
         dueCrossed("the last edge and the first but one", 103, 0, 0, 4, 4, 4, -4, 6, 2);
         dueCrossed("the least of several", 2, 0, 0, 4, 4, 4, 0, 0, 4, 2, -1);
+        dueCrossed("edges 0 and 4 ahead of 1 and 3", 4, 2, 6, 6, 4, 2, 1, 2, 0, 4, 4, 4, 6);
         dueCrossed("edges 9 and 11 of twelve", 911, 0, 0, 4, 0, 8, 0, 12, 0, 16, 0, 20, 0, 20, 9, 16, 9, 12, 9,
                 8, 9, 6, 3, 10, 7);
         dueCrossed("a corner on the last edge", 205, 0, 0, 4, 0, 4, 4, 0, 2, 2, 6, 0, 6);
@@ -348,6 +349,9 @@ public final class BoundariesTest {
             Bench c = new Bench();
             c.close(0, 0, 0, 0, 2, dents[i], 4, 4, 0, 9);
             Bench.due("15 past a corner at " + dents[i], c.map.split(0, 0, 2, 0), due[i]);
+            Bench d = new Bench();
+            d.close(0, 0, 0, 0, 8, 0, 8, 2, 8, 6, 4, dents[2 - i], 0, 6, 0, 2);
+            Bench.due("15 past a tip at " + dents[2 - i], d.map.split(0, 2, 6, 0), due[i]);
         }
     }
 

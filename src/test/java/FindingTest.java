@@ -137,6 +137,10 @@ public final class FindingTest {
         Bench.due("22 layer 4", b.map.walk(4, 0, 2, 0), -102);
         Bench.due("22 layer -1", b.map.walk(-1, 0, 2, 0), -102);
         Bench.due("22 a is b", b.map.walk(0, 2, 2, 0), -102);
+        b.map.drop(0);
+        Bench.due("22 without one that is gone", walk(b, -1, 2, 20, 2, 0), 1);
+        Bench.due("22 without one that is gone, no second", walk(b, -1, 2, 20, 2, 1), -1);
+        Bench.due("22 of another layer", b.map.walk(1, b.corner(-1, 2), b.corner(20, 2), 0), 2);
     }
 
     private static void walkBay() {

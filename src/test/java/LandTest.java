@@ -85,6 +85,7 @@ public final class LandTest {
         dueOver("the half right of the middle", all, box(2, 0, 4, 4));
         dueOver("a roof below the upper edge", all, new double[] {0, 4, 2, 2, 4, 4});
         dueOver("an edge longer at both ends", all, new double[] {-1, 0, 5, 0, 2, 1});
+        dueOver("from corner to corner, by an edge behind edge 0", all, new double[] {-1, 6, 0, 4, 4, 0, 7, 7});
         dueOver("through two corners", all, new double[] {-1, -1, 5, 5, -1, 5});
         dueOver("through one corner alone", all, new double[] {3, 5, 5, 3, 3, 3});
         dueOver("a cross without a corner inside", box(-1, 1, 5, 3), box(1, -1, 3, 5));
