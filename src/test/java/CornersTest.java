@@ -7,6 +7,7 @@ public final class CornersTest {
         at();
         side();
         sideBeyondDoubles();
+        sideAgainstTheEstimate();
         sure();
         cross();
         crossNearly();
@@ -110,6 +111,30 @@ public final class CornersTest {
         int p = b.corner(0x1.0000000000001p0, 0x1.0000000000002p0);
         int q = b.corner(0x1.0000000000003p0, 0x1.0000000000006p0);
         Bench.due("4 last bits", b.map.side(o, p, q), 1);
+    }
+
+    /** The differences are rounded, so that the estimate is on another side, and not sure. */
+    private static void sideAgainstTheEstimate() {
+        dueAgainst("right, though it is left", 1, 12, 12, 24, 24, 0x1.0000000000029p-1, 0x1.0000000000030p-1);
+        dueAgainst("left, though it is right", -1, 12, 12, 24, 24, 0x1.0000000000030p-1, 0x1.0000000000029p-1);
+        dueAgainst("right, though it is in line", 0, 0x1.97b74f3acfff4p+0, 0x1.31c97b6c1bff7p+2,
+                0x1.216362d4a6d28p+10, 0x1.b215143efa3bcp+11, 0x1.ea7b57ad58690p-10, 0x1.6fdc81c2024ecp-8);
+        dueAgainst("left, though it is in line", 0, 0x1.795ba6a6a03f4p+0, 0x1.1b04bcfcf82f7p+2,
+                0x1.94b2a80bcd298p+10, 0x1.2f85fe08d9df2p+12, 0x1.9b0884319ff64p-10, 0x1.3446632537f8bp-8);
+    }
+
+    private static void dueAgainst(String what, int side, double ax, double ay, double bx, double by, double cx, double cy) {
+        double e = (ax - cx) * (by - cy), f = (ay - cy) * (bx - cx);
+        Bench.due("the estimate is " + what, e > f ? 1 : -1, what.startsWith("left") ? 1 : -1);
+        Bench b = new Bench();
+        int one = b.corner(ax, ay), two = b.corner(bx, by), c = b.corner(cx, cy);
+        Bench.due("4 told " + what, b.map.side(one, two, c), side);
+        Bench.due("5 told " + what, b.map.sure(), 0);
+        int high = b.corner(cx, 4096), low = b.corner(cx, -4096);
+        // Beyond c the line a b goes on: c is its end, and the upright ones begin or end there.
+        Bench.due("6 upwards, " + what, b.map.cross(two, c, high, c), 2);
+        Bench.due("6 downwards, " + what, b.map.cross(two, c, low, c), 2);
+        Bench.due("6 with the part to a, " + what, b.map.cross(two, c, one, c), side == 0 ? 3 : 2);
     }
 
     private static void sure() {

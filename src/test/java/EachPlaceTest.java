@@ -23,6 +23,7 @@ public final class EachPlaceTest {
         joinedByTwoEdges();
         joinedByThreeEdges();
         hooks();
+        overByEdge();
         tips();
         levels();
         moved();
@@ -345,6 +346,29 @@ public final class EachPlaceTest {
 
     // ---- where lands lie
 
+    /** A piece of the other one, all along its border but for edge k, which is within. */
+    private static void overByEdge() {
+        int[][] whole = {{0, 0}, {96, -48}, {96, 120}, {12, 72}, {48, 36}};
+        for (int k = 1; k <= 9; k++) {
+            int[][] piece = new int[3 + k][];
+            for (int i = 0; i < k; i++) {
+                piece[i] = new int[] {12 + 3 * i, 72 - 3 * i};
+            }
+            piece[k] = whole[4];
+            piece[k + 1] = new int[] {96, 36};
+            piece[k + 2] = whole[2];
+            dueOver("by edge " + k, told(whole), told(piece));
+        }
+    }
+
+    private static void dueOver(String what, double[] one, double[] other) {
+        for (int turn = 0; turn < 2; turn++) {
+            Bench b = new Bench();
+            Bench.due("10 " + what + ", turn " + turn + ": the first", b.close(0, 0, turn == 0 ? one : other), 0);
+            Bench.due("10 " + what + ", turn " + turn, b.close(0, 0, turn == 0 ? other : one), -204);
+        }
+    }
+
     /** Corner k alone reaches to where another one lies; only along y if it would be the one ahead else. */
     private static void tips() {
         for (int k = 1; k < 12; k++) {
@@ -353,11 +377,7 @@ public final class EachPlaceTest {
             int[] tip = {c[0] < 0 ? c[0] : 3 * c[0], 3 * c[1]};
             ring[k] = tip;
             double[] near = box(tip[0] - 1, tip[1] - 1, tip[0] + 1, tip[1] + 1);
-            for (int turn = 0; turn < 2; turn++) {
-                Bench b = new Bench();
-                b.close(0, 0, turn == 0 ? told(ring) : near);
-                Bench.due("10 over tip " + k + ", turn " + turn, b.close(0, 0, turn == 0 ? near : told(ring)), -204);
-            }
+            dueOver("tip " + k, told(ring), near);
         }
     }
 

@@ -26,6 +26,7 @@ public final class FindingTest {
         Bench.due("20 inside", b.locate(0, 1, 1), 1);
         Bench.due("20 inside another", b.locate(0, 5, 1), 0);
         Bench.due("20 on a common edge: the least", b.locate(0, 4, 2), 0);
+        Bench.due("21 on a common edge: that one's", b.map.edge(), 3);
         Bench.due("20 at a corner", b.locate(0, 0, 0), 1);
         Bench.due("20 at a corner, minus zero", b.locate(0, -0.0, -0.0), 1);
         Bench.due("20 another layer", b.locate(1, 1, 1), 2);
