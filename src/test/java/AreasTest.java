@@ -6,6 +6,8 @@ public final class AreasTest {
         compare();
         quota();
         quotaLikeRests();
+        quotaOfLayers();
+        quotaOfOneLess();
         quotaRefusals();
         quotaExactly();
         lastUnit();
@@ -96,6 +98,38 @@ public final class AreasTest {
         Bench.due("27 like rests, 2", b.map.quota(2, 2), 0);
         Bench.due("27 like rests of four, 0", b.map.quota(0, 4), 2);
         Bench.due("27 like rests of four, 1", b.map.quota(1, 4), 1);
+    }
+
+    /** What was asked of one layer, or of one that is gone, is nothing to another. */
+    private static void quotaOfLayers() {
+        Bench b = new Bench();
+        b.box(0, 0, 0, 0, 1, 5);
+        b.box(1, 0, 0, 0, 100, 10);
+        b.box(0, 0, 1, 0, 4, 1);
+        b.box(1, 0, 100, 0, 101, 999);
+        b.box(0, 0, 10, 0, 12, 1);
+        for (int again = 0; again < 2; again++) {
+            // 7 of 5, 3, 2: 3.5, 2.1, 1.4; of 1000, 999: 3.502, 3.498.
+            Bench.due("27 one layer, 0", b.map.quota(0, 7), 4);
+            Bench.due("27 other layer, 1", b.map.quota(1, 7), 4);
+            Bench.due("27 one layer, 2", b.map.quota(2, 7), 2);
+            Bench.due("27 other layer, 3", b.map.quota(3, 7), 3);
+            Bench.due("27 one layer, 4", b.map.quota(4, 7), 1);
+        }
+        Bench.due("27 all three with a rest, the greatest", b.map.quota(0, 11), 6);
+        b.map.drop(0);
+        // 11 of 3, 2: 6.6, 4.4.
+        Bench.due("27 the greatest gone, 2", b.map.quota(2, 11), 7);
+        Bench.due("27 the greatest gone, 4", b.map.quota(4, 11), 4);
+    }
+
+    /** 2 of 1375 and 3625: 0.55 and 1.45, so that the one whose whole share is 0 has the greater rest. */
+    private static void quotaOfOneLess() {
+        Bench b = new Bench();
+        b.box(0, 0, 0, 0, 1375, 1);
+        b.box(0, 0, 0, 1, 3625, 2);
+        Bench.due("27 a rest and nothing else", b.map.quota(0, 2), 1);
+        Bench.due("27 one and a lesser rest", b.map.quota(1, 2), 1);
     }
 
     private static void quotaRefusals() {
